@@ -1794,10 +1794,13 @@ public final class SunnyOnes {
         }
 
         private boolean reaches(int step) {
-            if (step >= length) {
-                return folk.age(one) == goal;
-            }
             int age = folk.age(one);
+            if (leadsNowhere(goal - age, length - step)) {
+                return false;
+            }
+            if (step >= length) {
+                return true;
+            }
             for (int spot = 0; spot < land.size(); spot++) {
                 stay(step, spot);
                 boolean good = reaches(step + 1);
@@ -1809,6 +1812,11 @@ public final class SunnyOnes {
             return false;
         }
 
+        /** A DAY has 0 .. 9 HOURS, so most ways are seen to miss long before their end. */
+        private static boolean leadsNowhere(int missing, int left) {
+            return missing < 0 || missing > MOST_HOURS * left;
+        }
+
         /** In how many ways one has so many HOURS on n DAYS. */
         int waysTo(int who, int hours, int n) {
             start(who, hours, n);
@@ -1817,11 +1825,12 @@ public final class SunnyOnes {
         }
 
         private void gather(int step, int had) {
+            if (leadsNowhere(goal - had, length - step)) {
+                return;
+            }
             if (step >= length) {
-                if (had == goal) {
-                    keepFirst();
-                    found++;
-                }
+                keepFirst();
+                found++;
                 return;
             }
             int age = folk.age(one);
