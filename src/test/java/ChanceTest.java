@@ -39,6 +39,45 @@ public final class ChanceTest {
         chance(x, 0, 2, 4, 18, 9, 25);
         Check.rule(x, "(w=9)*(a<2)*1");
         chance(x, 0, 3, 5, 2, 1, 2);
+        Check.rule(x, "(w=9)*(n=2)");
+        chance(x, 0, 2, 4, 1, 0, 1);
+        chance(x, 0, 3, 4, 1, 2, 5);
+        chance(x, 0, 8, 4, 1, 2, 5);
+        x.days(1);
+        chance(x, 0, 1, 4, 1, 0, 1);
+        chance(x, 0, 2, 4, 1, 2, 5);
+        x.days(1);
+        chance(x, 0, 1, 4, 1, 2, 5);
+        Check.rule(x, "k+(w=0)*0");
+        x.moves(1, 0);
+        chance(x, 0, 8, 4, 8, 1, 1);
+        chance(x, 0, 8, 4, 9, 0, 1);
+        Check.rule(x, "8+(w=9)");
+        Check.skies(x, "5");
+        chance(x, 0, 1, 3, 9, 3, 10);
+        chance(x, 0, 1, 3, 8, 1, 1);
+        chance(x, 0, 1, 0, 9, 0, 1);
+        chance(x, 0, 1, 10, 9, 1, 1);
+        chance(x, 0, 8, 10, 72, 1, 1);
+        chance(x, 0, 8, 9, 72, 43046721, 100000000);
+        chance(x, 0, 8, 0, 64, 1, 1);
+        chance(x, 0, 8, 0, 65, 0, 1);
+        chance(x, 0, 2, 2, 17, 9, 25);
+        Check.rule(x, "w-1");
+        chance(x, 0, 2, 5, 8, 3, 4);
+        Check.rule(x, "(w=0)*9");
+        chance(x, 0, 1, 9, 9, 1, 10);
+        chance(x, 0, 1, 1, 9, 9, 10);
+        chance(x, 0, 1, 10, 9, 0, 1);
+        chance(x, 0, 1, 0, 9, 1, 1);
+        Check.rule(x, "(w=9)*9");
+        chance(x, 0, 1, 9, 9, 9, 10);
+        chance(x, 0, 1, 1, 9, 1, 10);
+        SunnyOnes old = Check.rule(Check.world("1", "990"), "9");
+        for (int i = 0; i < 20; i++) {
+            old.days(60);
+        }
+        chance(old, 0, 8, 5, 72, 1, 1);
     }
 
     /** Whether who is to take 1 .. most of a rest wins. */
@@ -120,6 +159,10 @@ public final class ChanceTest {
         Check.row("law of 9", x, 270, 130, 100, 102, 98);
         Check.eq("wrong", Check.type(x, "s*").law(), -10002);
         Check.eq("wrong", Check.type(x, "x").law(), -10000);
+        Check.eq("more than 40", Check.type(x, "1+1+1+1+1+1+1+1+1+1+1+1+1+1+1+1+1+1+1+--1").law(), -10040);
+        Check.eq("more than 40", Check.type(x, "1+1+1+1+1+1+1+1+1+1+1+1+1+1+1+1+1+1+1+-1x").law(), -10040);
+        Check.eq("ends too early", Check.type(x, "1+1+1+1+1+1+1+1+1+1+1+1+1+1+1+1+1+1+1+-").law(), -10039);
+        Check.eq("ends too early", Check.type(x, "1+1+1+1+1+1+1+1+1+1+1+1+1+1+1+1+1+1+1+--").law(), -10040);
         Check.row("the ROW stays", x, 270, 130, 100, 102, 98);
         Check.eq("count(12)", x.count(12), 0);
         Check.rule(x, "i");
@@ -131,6 +174,23 @@ public final class ChanceTest {
         Check.eq("nothing changes", x.count(4), 30);
         Check.eq("nothing changes", x.count(2), 0);
         Check.eq("nobody", new SunnyOnes().law(), 0);
+        SunnyOnes none = new SunnyOnes();
+        Check.eq("nobody", Check.type(none, "9").law(), 0);
+        Check.row("nobody", none, 0, 0);
+        SunnyOnes old = Check.rule(Check.world("1", "990;990"), "9");
+        for (int i = 0; i < 18; i++) {
+            old.days(60);
+        }
+        old.days(19);
+        Check.eq("AGE 9990", Check.one(old, 0, 0), 9990);
+        Check.eq("HOURS are whole", Check.type(old, "9-i*8").law(), 100 - 180);
+        Check.row("9999 at most", old, 100, 180, 9999, 9999);
+        Check.rule(old, "(n=0)*9");
+        Check.eq("DAY 1099 by 7", old.count(2) % 7, 0);
+        Check.eq("n is 6 once, 0 twice", Check.type(old, "(n=6)*9").law(), 18 - 36);
+        Check.row("n is 6 once, 0 twice", old, 18, 36, 9999, 9999);
+        Check.eq("ten DAYS", Check.type(old, "1").law(), 20 - 36);
+        Check.row("ten DAYS", old, 20, 36, 9999, 9999);
     }
 
     private static void years() {
@@ -179,6 +239,70 @@ public final class ChanceTest {
         Check.row("nobody: no DRAWS more", none, 0, draws(1, 3));
     }
 
+    private int r;
+
+    private int drawn(int n) {
+        r = r * 1103515245 + 12345;
+        return (int) (Integer.toUnsignedLong(r) / 65536 % n);
+    }
+
+    /** By the words of promise 46, where each has one HOUR a DAY and AGES are far from 9999. */
+    private static void yearsOf(int seed, int n, int[] ages, int places) {
+        SunnyOnes x = Check.rule(Check.world("1;1;1;1;1;1".substring(0, 2 * places - 1), folk(ages)), "p+1");
+        ChanceTest t = new ChanceTest();
+        t.r = seed;
+        int[] age = ages.clone();
+        int[] spot = new int[age.length];
+        int day = 0;
+        int hours = 0;
+        for (int i = 0; i < n; i++) {
+            int kind = t.drawn(4);
+            if (kind < 2) {
+                for (int one = 0; one < age.length; one++) {
+                    hours += spot[one] + 1;
+                    age[one] += spot[one] + 1;
+                }
+                day++;
+            } else if (age.length > 0) {
+                int one = t.drawn(age.length);
+                if (kind == 2) {
+                    spot[one] = t.drawn(places);
+                } else {
+                    age[one] = Math.max(0, age[one] - t.drawn(9) - 1);
+                }
+            }
+        }
+        int sum = 0;
+        for (int a : age) {
+            sum += a;
+        }
+        Check.eq("years(" + seed + ", " + n + ")", x.years(seed, n), sum);
+        Check.row("years(" + seed + ", " + n + ")", x, hours, day);
+    }
+
+    private static String folk(int[] ages) {
+        StringBuilder s = new StringBuilder();
+        for (int age : ages) {
+            s.append(s.length() > 0 ? ";" : "").append((char) ('0' + age / 10)).append((char) ('0' + age % 10)).append('0');
+        }
+        return s.toString();
+    }
+
+    private static void yearsAll() {
+        Check.part("promise 46");
+        int[] seeds = {0, 1, -1, 7, 123456789, Integer.MAX_VALUE, Integer.MIN_VALUE, 65536, -65536};
+        int[][] folks = {{0}, {50}, {99}, {0, 0}, {10, 12, 8}, {0, 1, 2, 3, 4, 5, 6}, {99, 0, 50, 20}};
+        for (int seed : seeds) {
+            for (int[] ages : folks) {
+                for (int places : new int[] {1, 2, 5, 6}) {
+                    for (int n : new int[] {1, 2, 3, 10, 59, 60}) {
+                        yearsOf(seed, n, ages, places);
+                    }
+                }
+            }
+        }
+    }
+
     private static int draws(int seed, int n) {
         int days = 0;
         int r = seed;
@@ -195,6 +319,7 @@ public final class ChanceTest {
         rests();
         law();
         years();
+        yearsAll();
         Check.done();
     }
 }

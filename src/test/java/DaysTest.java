@@ -69,11 +69,20 @@ public final class DaysTest {
         for (int[] w : wrong) {
             Check.eq("swaps(" + w[0] + ", " + w[1] + ")", x.swaps(w[0], w[1]), -1);
         }
+        Check.eq("swaps(0, 2)", x.swaps(0, 2), 1);
+        Check.eq("swaps(2, 0)", x.swaps(2, 0), 1);
+        x.undo();
+        x.undo();
         x.moves(2, 0);
         Check.eq("at the same", x.swaps(1, 2), -2);
         Check.eq("one alone", x.swaps(1, 1), -1);
         spots("still", x, 2, 0, 0);
         Check.eq("count(10)", x.count(10), 3);
+        SunnyOnes far = Check.world("1;2;3;4;5;6", "105;112;120");
+        Check.eq("5 and 2", far.swaps(0, 1), 3);
+        Check.eq("2 and 5", far.swaps(0, 1), 3);
+        Check.eq("5 and 0", far.swaps(0, 2), 5);
+        spots("0 and 5", far, 0, 2, 5);
     }
 
     private static void deeds() {
@@ -91,6 +100,15 @@ public final class DaysTest {
         Check.eq("deeds(3)", x.deeds(3), -1);
         Check.eq("deeds(-1)", x.deeds(-1), -1);
         Check.eq("count(10)", x.count(10), 12);
+        Check.eq("the hundredth is undone, too", x.undo(), 11);
+        Check.eq("DEEDS", Check.one(x, 0, 2), 99);
+        Check.eq("the ninety-ninth is undone", x.undo(), 10);
+        Check.eq("DEEDS", Check.one(x, 0, 2), 98);
+        Check.rule(x, "1");
+        Check.eq("an hour is enough", x.deeds(1), -2);
+        Check.rule(x, "0-1");
+        Check.eq("less than none is none", x.deeds(1), 2);
+        Check.eq("count(10)", x.count(10), 11);
     }
 
     private static void doubts() {
@@ -106,6 +124,13 @@ public final class DaysTest {
         }
         ages("then", x, 9, 0, 0);
         Check.eq("count(10)", x.count(10), 3);
+        SunnyOnes old = Check.world("0", "990;990;990");
+        Check.eq("doubts(0, 98)", old.doubts(0, 98), 1);
+        Check.eq("doubts(1, 99)", old.doubts(1, 99), 0);
+        Check.eq("doubts(2, 1)", old.doubts(2, 1), 98);
+        Check.eq("AGE 1", old.doubts(0, 99), 0);
+        Check.eq("AGE 0", old.doubts(0, 99), -2);
+        Check.eq("count(10)", old.count(10), 4);
     }
 
     private static void badLife(String text, int due) {
@@ -138,6 +163,18 @@ public final class DaysTest {
         badLife("y11", -4);
         badLife("y1x1", -3);
         badLife("n1 n1", -3);
+        badLife("n1N1", -3);
+        badLife("n/", -2);
+        badLife("n:", -2);
+        badLife("1", -1);
+        badLife(";", -1);
+        badLife("\u00ee1", -1);
+        badLife("m0x", -3);
+        badLife("s", -2);
+        badLife("s0", -3);
+        badLife("y", -2);
+        badLife("y1", -3);
+        badLife("n1d1m02s12y205x", -15);
         badLife("n1n1n1n1n1n1n1n1n1n1n1n1n1n1n1n1n1n1n1n1n1n1n1n1n1n1n1n1n1n1n1", -61);
         badLife("n1n1n1n1n1n1n1n1n1n1n1n1n1n1n1n1n1n1n1n1n1n1n1n1n1n1n1n1n1n1x", -61);
         badLife("n1n1n1n1n1n1n1n1n1n1n1n1n1n1n1n1n1n1n1n1n1n1n1n1n1n1n1n1n1x1n1", -59);
@@ -159,6 +196,18 @@ public final class DaysTest {
         goodLife("y005", 1, 0, 25, 1);
         goodLife("y099y001", 1, 1, 20, 1);
         goodLife("y100", 0, 1, 30, 0);
+        goodLife("y199", 1, 0, 18, 1);
+        goodLife("y301", 0, 1, 30, 0);
+        goodLife("d0", 0, 1, 30, 0);
+        goodLife("d9", 0, 1, 30, 0);
+        goodLife("s03", 0, 1, 30, 0);
+        goodLife("s30", 0, 1, 30, 0);
+        goodLife("s12", 1, 0, 30, 1);
+        goodLife("m03", 0, 1, 30, 0);
+        goodLife("m30", 0, 1, 30, 0);
+        goodLife("m01m01", 1, 1, 30, 1);
+        goodLife("m01s01", 1, 1, 30, 1);
+        goodLife("n0n0m00", 2, 1, 30, 1);
         goodLife("n1n1n1n1n1n1n1n1n1n1n1n1n1n1n1n1n1n1n1n1n1n1n1n1n1n1n1n1n1n1", 30, 0, 420, 1);
         SunnyOnes x = Check.family();
         Check.type(x, "n1d1m02s12y205d9").life();
@@ -224,6 +273,78 @@ public final class DaysTest {
         Check.eq("these do not", x.count(10), 1);
     }
 
+    /** AGES, PLACES, DEEDS, DAY of all in one number each. */
+    private static long[] all(SunnyOnes x) {
+        long[] all = new long[10];
+        for (int one = 0; one < 3; one++) {
+            for (int what = 0; what < 3; what++) {
+                all[3 * one + what] = Check.one(x, one, what);
+            }
+        }
+        all[9] = x.count(2);
+        return all;
+    }
+
+    private static void same(String what, SunnyOnes x, long[] due) {
+        long[] got = all(x);
+        for (int i = 0; i < due.length; i++) {
+            Check.eq(what + ", number " + i, got[i], due[i]);
+        }
+    }
+
+    /** Each kind of act, told by a number, behind any other: just as it was ahead of it. */
+    private static int act(SunnyOnes x, int kind) {
+        switch (kind) {
+            case 0:
+                return x.days(2);
+            case 1:
+                return x.moves(0, Check.one(x, 0, 1) == 2 ? 0 : 2);
+            case 2:
+                return x.swaps(0, 1);
+            case 3:
+                return x.deeds(1);
+            case 4:
+                return x.doubts(2, 1);
+            default:
+                return Check.type(x, "n1d1y101").life() - 3;
+        }
+    }
+
+    private static void undoOfEach() {
+        Check.part("promise 17: each act");
+        for (int first = 0; first < 6; first++) {
+            for (int second = 0; second < 6; second++) {
+                SunnyOnes x = Check.rule(Check.world("9;0;4", "100;121;082"), "(i=1)*0+(i=0)*5+(i=2)");
+                long[] atFirst = all(x);
+                Check.yes("act " + first + " is done", act(x, first) >= 0);
+                long[] between = all(x);
+                String told = "acts " + first + ", " + second;
+                Check.yes(told + " are done", act(x, second) >= 0);
+                Check.eq(told + ", undo()", x.undo(), 1);
+                same(told + ", undo()", x, between);
+                Check.eq(told + ", undo() twice", x.undo(), 0);
+                same(told + ", undo() twice", x, atFirst);
+                Check.eq(told + ", undo() thrice", x.undo(), -1);
+                same(told + ", undo() thrice", x, atFirst);
+            }
+        }
+        SunnyOnes x = Check.family();
+        long[][] ahead = new long[30][];
+        for (int i = 0; i < 30; i++) {
+            ahead[i] = all(x);
+            x.days(1 + i % 3);
+        }
+        for (int i = 29; i >= 18; i--) {
+            Check.eq("undo()", x.undo(), i - 18);
+            same("the act " + i + " is undone", x, ahead[i]);
+        }
+        Check.eq("of 12 that are kept", x.undo(), -1);
+        same("as ahead of the twelfth", x, ahead[18]);
+        x.days(1);
+        Check.eq("one more is one", x.undo(), 0);
+        same("and it is undone", x, ahead[18]);
+    }
+
     public static void main(String[] args) {
         days();
         moves();
@@ -232,6 +353,7 @@ public final class DaysTest {
         doubts();
         life();
         undo();
+        undoOfEach();
         Check.done();
     }
 }

@@ -75,6 +75,47 @@ public final class FaceTest {
         }
     }
 
+    /** Rules 3, 5 and 11 of LANGUAGE.md, as far as they can be seen from outside. */
+    private static void sizes(Class<?> c) {
+        Check.part("sizes of " + c.getSimpleName());
+        Set<String> still = new HashSet<>(Arrays.asList("int", "long", "boolean", "char", "java.lang.String", "[I", "[J", "[C", "[B"));
+        int fields = 0;
+        for (Field f : c.getDeclaredFields()) {
+            boolean shared = Modifier.isStatic(f.getModifiers());
+            fields += shared ? 0 : 1;
+            Check.yes(f.getName() + " is final", !shared || Modifier.isFinal(f.getModifiers()));
+            Check.yes(f.getName() + " is a constant", !shared || still.contains(f.getType().getName()));
+        }
+        Check.yes("twenty fields", fields <= 20);
+        for (Method m : c.getDeclaredMethods()) {
+            Check.yes(m.getName() + " takes seven at most", m.getParameterCount() <= 7);
+        }
+        for (Class<?> inside : c.getDeclaredClasses()) {
+            sizes(inside);
+        }
+    }
+
+    /** No call makes an object but what it throws; no method is long. */
+    private static void lines(String code) {
+        Check.part("lines");
+        int depth = 0;
+        int begun = 0;
+        String[] lines = code.split("\n");
+        for (int i = 0; i < lines.length; i++) {
+            String line = lines[i].trim();
+            boolean made = line.contains("new ");
+            boolean kept = line.matches("(private final .*|\\w+|\\w+\\[i\\]) = new .*|throw new NoSuchElementException\\(\\);");
+            Check.yes("line " + i + " makes nothing: " + line, !made || kept);
+            boolean head = line.endsWith("{") && line.contains("(") && lines[i].matches("( {4}| {8})\\w.*") && !line.contains(" class ");
+            if (head && !line.matches("(for|if|while|switch|do|else|\\}).*")) {
+                begun = i;
+            }
+            Check.yes("line " + i + " is of a short method", i - begun <= 60 || !lines[i].startsWith("        "));
+            depth += line.chars().map(c -> c == '{' ? 1 : c == '}' ? -1 : 0).sum();
+        }
+        Check.eq("braces", depth, 0);
+    }
+
     private static void source() throws IOException {
         Check.part("the source");
         String all = Files.readString(Path.of("src/main/java/SunnyOnes.java"), StandardCharsets.UTF_8);
@@ -86,10 +127,12 @@ public final class FaceTest {
         }
         Check.eq("imports", code.split("import ").length - 1, 1);
         Check.yes("it is of signs 0 to 127", all.chars().allMatch(c -> c < 128));
+        lines(code);
     }
 
     public static void main(String[] args) throws IOException {
         members();
+        sizes(SunnyOnes.class);
         source();
         Check.done();
     }

@@ -32,6 +32,22 @@ public final class OldTest {
         Check.eq("when(0, 902)", x.when(0, 902), -2);
         Check.eq("when(1, 13)", x.when(1, 13), -2);
         Check.eq("when(0, 9999)", x.when(0, 9999), -2);
+        SunnyOnes old = Check.rule(Check.world("1", "990;000"), "9");
+        for (int i = 0; i < 18; i++) {
+            old.days(60);
+        }
+        old.days(10);
+        Check.eq("AGE 9909", old.when(0, 9999), 10);
+        Check.row("9999 at most", old, 9999);
+        old.days(10);
+        Check.eq("AGE 9999", old.when(0, 9999), 0);
+        Check.row("AGE 9999", old, 9999);
+        Check.eq("AGE 9900", old.when(1, 9998), 11);
+        Check.row("AGE 9900", old, 9999);
+        SunnyOnes young = Check.world("0", "000");
+        Check.eq("AGE 0", young.when(0, 0), 0);
+        Check.row("AGE 0", young, 0);
+        Check.eq("AGE 1", young.when(0, 1), -2);
         int[][] wrong = {{0, 10000}, {0, -1}, {3, 0}, {-1, 0}};
         for (int[] w : wrong) {
             Check.eq("when(" + w[0] + ", " + w[1] + ")", x.when(w[0], w[1]), -1);
@@ -55,10 +71,35 @@ public final class OldTest {
         x.doubts(1, 4);
         Check.eq("always", x.even(2, 1), 0);
         Check.row("always", x, 8, 100);
+        SunnyOnes sky = Check.skies(Check.world("9;0", "091;000"), "005");
+        Check.eq("by SKY of each DAY", sky.even(0, 1), -2);
+        Check.skies(sky, "0045");
+        Check.eq("by SKY of each DAY", sky.even(0, 1), 4);
+        Check.row("by SKY of each DAY", sky, 9, 3);
+        Check.rule(sky, "(n=6)*9");
+        Check.eq("by DAY", sky.even(0, 1), -2);
+        Check.rule(sky, "(n=6)*9*(i=1)");
+        Check.eq("by DAY", sky.even(0, 1), 7);
+        Check.row("by DAY", sky, 9, 7);
+        Check.rule(sky, "(a<9)*(i=1)*3");
+        Check.eq("by AGE", sky.even(1, 0), 3);
+        Check.row("by AGE", sky, 9, 97);
+        SunnyOnes old = Check.rule(Check.world("1", "990;000"), "9");
+        for (int i = 0; i < 18; i++) {
+            old.days(60);
+        }
+        Check.eq("9999 at most", old.even(0, 1), 31);
+        Check.row("9999 at most", old, 9999, 69);
         SunnyOnes last = Check.world("1;2", "991;000");
         Check.rule(last, "1-p");
         Check.eq("at the last", last.even(0, 1), 99);
         Check.row("at the last", last, 99, 1);
+        last.sign(0);
+        Check.eq("DAYS", last.days(1), 100);
+        last.undo();
+        Check.rule(last, "(n=1)*2*i");
+        Check.eq("too late", last.even(1, 0), -2);
+        Check.row("the ROW stays", last, 1, 0);
     }
 
     private static void passes() {
@@ -121,6 +162,9 @@ public final class OldTest {
         Check.eq("the last two", out.summer(0, 2), 10);
         Check.row("the last two", out, 58);
         SunnyOnes beyond = Check.rule(Check.world("1", "000"), "9*(a=9)+1*(a<9)*(n=3)");
+        Check.eq("beyond them", beyond.summer(0, 2), 1);
+        Check.row("beyond them", beyond, 2);
+        Check.eq("HOURS that another call looked at", beyond.nights(0, 99), 99 - 20);
         Check.eq("beyond them", beyond.summer(0, 2), 1);
         Check.row("beyond them", beyond, 2);
     }

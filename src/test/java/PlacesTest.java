@@ -74,8 +74,23 @@ public final class PlacesTest {
         Check.eq("nothing came", x.count(0), 5);
         Check.eq("one more", Check.type(x, "6").places(), 1);
         Check.eq("no room", Check.type(x, "x").places(), -1);
+        Check.eq("no room", Check.type(x, "7").places(), -1);
+        Check.eq("no room", Check.type(x, ";").places(), -1);
+        Check.eq("no room", Check.type(x, "1;2;3;4;5;6;7").places(), -1);
         Check.eq("an empty one", Check.type(x, "").places(), 0);
         Check.eq("count(5)", x.count(5), 21);
+        Check.eq("place(5, 0)", Check.place(x, 5, 0), 6);
+        SunnyOnes half = new SunnyOnes();
+        Check.eq("LIGHT 9, 0, 9", Check.type(half, "9;0;9").places(), 3);
+        Check.eq("room for three", Check.type(half, "1;2;3;4").places(), -7);
+        Check.eq("no room ahead of too many signs", Check.type(half, "1;2;3;4;5;6;").places(), -7);
+        Check.eq("a wrong sign ahead of no room", Check.type(half, "1;2;x;4").places(), -5);
+        Check.eq("too early ahead of no room", Check.type(half, "1;2;3;").places(), -7);
+        Check.eq("too early", Check.type(half, "1;2;").places(), -5);
+        Check.eq("nothing came", half.count(0), 3);
+        Check.eq("three", Check.type(half, "1;2;3").places(), 3);
+        Check.eq("count(0)", half.count(0), 6);
+        Check.eq("count(5)", half.count(5), 24);
     }
 
     private static void people(String text, int due) {
@@ -110,9 +125,35 @@ public final class PlacesTest {
         Check.eq("count(1)", x.count(1), 6);
         Check.eq("one more", Check.type(x, "071").people(), 1);
         Check.eq("no room", Check.type(x, "11x").people(), -1);
+        Check.eq("no room", Check.type(x, "110").people(), -1);
+        Check.eq("an empty one", Check.type(x, "").people(), 0);
+        Check.eq("count(1)", x.count(1), 7);
         Check.eq("one(6, 0)", Check.one(x, 6, 0), 7);
         Check.eq("one(6, 1)", Check.one(x, 6, 1), 1);
         Check.eq("one(6, 2)", Check.one(x, 6, 2), 0);
+        Check.eq("the seventh", Check.place(x, 1, 1), 64);
+        Check.eq("the seventh goes there", x.moves(6, 0), 11);
+        Check.eq("all seven", Check.place(x, 0, 1), 127);
+        Check.eq("all seven", Check.place(x, 0, 2), 6 * 11 + 7);
+        x.heard(1, 0);
+        Check.eq("all seven", x.fits(), 127);
+        Check.row("all seven", x, 7);
+        SunnyOnes half = Check.world("9;0", "000;991;050;051");
+        Check.eq("room for three", Check.type(half, "110;110;110;110").people(), -13);
+        Check.eq("no room ahead of a wrong sign", Check.type(half, "110;110;110;11x").people(), -13);
+        Check.eq("a wrong PLACE ahead of no room", Check.type(half, "110;112;110;110").people(), -7);
+        Check.eq("too early", Check.type(half, "110;110;11").people(), -11);
+        Check.eq("too early", Check.type(half, "110;110;").people(), -9);
+        Check.eq("no LINE at all", Check.type(half, ";").people(), -1);
+        Check.eq("nothing came", half.count(1), 4);
+        Check.eq("least AGE", Check.one(half, 0, 0), 0);
+        Check.eq("most AGE", Check.one(half, 1, 0), 99);
+        Check.eq("three", Check.type(half, "110;121;130").people(), 3);
+        Check.eq("count(1)", half.count(1), 7);
+        SunnyOnes six = new SunnyOnes();
+        Check.type(six, "1;2;3;4;5;6").places();
+        Check.eq("the last PLACE", Check.type(six, "105").people(), 1);
+        Check.eq("one behind it", Check.type(six, "106").people(), -3);
     }
 
     private static void skies() {
@@ -131,6 +172,14 @@ public final class PlacesTest {
         Check.eq("one", Check.type(x, "5").skies(), 1);
         Check.eq("always", x.count(3), 5);
         Check.eq("count(12)", x.count(12), 0);
+        Check.eq("signs beside the digits", Check.type(x, "/").skies(), -1);
+        Check.eq("signs beside the digits", Check.type(x, "0:").skies(), -2);
+        Check.eq("a sign above 127", Check.type(x, "09\u00b0").skies(), -3);
+        Check.eq("the old ones hold", x.count(3), 5);
+        Check.eq("two", Check.type(x, "09").skies(), 2);
+        Check.eq("DAY 20 by 2", x.count(3), 0);
+        x.days(1);
+        Check.eq("DAY 21 by 2", x.count(3), 9);
     }
 
     private static void bad(String rule, int due) {
@@ -169,6 +218,25 @@ public final class PlacesTest {
         bad("s-", -3);
         bad("<s", -1);
         bad("S", -1);
+        bad(")", -1);
+        bad("s=", -3);
+        bad("s=<w", -3);
+        bad("s=w=a", -4);
+        bad("(s=w)=(a=k)=p", -12);
+        bad("s(w)", -2);
+        bad("(s)w", -4);
+        bad("9s", -2);
+        bad("(s", -3);
+        bad("(", -2);
+        bad("-", -2);
+        bad("9-x", -3);
+        bad("0000", -4);
+        bad("1+1234", -6);
+        bad("\u00f3", -1);
+        bad(";", -1);
+        bad("(((((", -5);
+        bad("s+((((w+(a", -9);
+        bad("-(-(-(-(-(s)))))", -10);
         bad("1+1+1+1+1+1+1+1+1+1+1+1+1+1+1+1+1+1+1+1+1", -41);
         bad("1+1+1+1+1+1+1+1+1+1+1+1+1+1+1+1+1+1+1+1x1", -40);
         bad("1+1+1+1+1+1+1+1+1+1+1+1+1+1+1+1+1+1+1+1+", -41);
@@ -211,6 +279,35 @@ public final class PlacesTest {
         good("w*w", 9);
         good("-w", 0);
         good("999*999*999*999>0", (999 * 999 * 999 * 999 > 0) ? 1 : 0);
+        good("512*512*512*16<0", 1);
+        good("512*512*512*16-1>0", 1);
+        good("512*512*512*16/-1<0", 1);
+        good("-(512*512*512*16)", 0);
+        good("512*512*512*16-1", 9);
+        good("512*512*512*16=-512*512*512*16", 1);
+        good("10-1", 9);
+        good("12-5", 7);
+        good("100/20", 5);
+        good("999/111", 9);
+        good("120-117", 3);
+        good("000", 0);
+        good("0/0+2", 2);
+        good("5+7/(s*w)", 5);
+        good("9/10", 0);
+        good("10", 9);
+        good("2<2", 0);
+        good("2>2", 0);
+        good("(2<2)+3", 3);
+        good("(2>2)+3", 3);
+        good("(2=3)+3", 3);
+        good("3*(2<3)+3*(3>2)+3*(2=2)", 9);
+        good("-1<0", 1);
+        good("2*2=1+3", 1);
+        good("6/4*2", 2);
+        good("6*4/2/3", 4);
+        good("9-2*3", 3);
+        good("9-6/4", 8);
+        good("9--4/-2", 7);
         good("((((4))))", 4);
         good("(((4)))+(((4)))", 8);
         good("---------------------------------------8", 0);
@@ -250,12 +347,19 @@ public final class PlacesTest {
     private static void place() {
         Check.part("promise 9");
         SunnyOnes x = Check.world("9;0;4", "100;121;082;050");
+        x.moves(3, 2);
+        x.moves(3, 0);
         long[][] due = {{9, 9, 15}, {0, 2, 12}, {4, 4, 8}};
         for (int place = 0; place < 3; place++) {
             for (int what = 0; what < 3; what++) {
                 Check.eq("place(" + place + ", " + what + ")", Check.place(x, place, what), due[place][what]);
             }
         }
+        x.moves(1, 2);
+        Check.eq("nobody is there", Check.place(x, 1, 1), 0);
+        Check.eq("nobody is there", Check.place(x, 1, 2), 0);
+        Check.eq("two are there", Check.place(x, 2, 1), 6);
+        Check.eq("two are there", Check.place(x, 2, 2), 20);
         int[][] wrong = {{-1, 0}, {3, 0}, {6, 0}, {0, -1}, {0, 3}, {Integer.MIN_VALUE, 0}};
         for (int[] w : wrong) {
             Check.eq("place(" + w[0] + ", " + w[1] + ")", Check.place(x, w[0], w[1]), Check.THROWS);
@@ -296,6 +400,18 @@ public final class PlacesTest {
         sheet(4, -1, 7, 7, -1, 1, 2, 3);
         sheet(-1, 1, 7, 7, -1, 1, 2, 3);
         sheet(0, 7, 7, 7, -1, 1, 2, 3);
+        SunnyOnes six = new SunnyOnes();
+        Check.type(six, "9;9;9;9;9;9").places();
+        Check.eq("six entries", six.sheet(2, 6, 1, 1), 21);
+        Check.eq("the sixth", Check.place(six, 5, 0), 6);
+        Check.eq("five entries", six.sheet(2, 5, 9, -1), 35);
+        Check.eq("those behind them", Check.place(six, 5, 0), 0);
+        Check.eq("all bright", six.sheet(2, 6, Integer.MAX_VALUE, 0), 54);
+        Check.eq("seven entries", six.sheet(2, 7, 1, 1), -1);
+        Check.eq("still", six.count(5), 54);
+        Check.eq("round the end", six.sheet(2, 6, Integer.MAX_VALUE - 1, 1), 18);
+        Check.eq("round the end of shorts", six.sheet(1, 6, -65534, 32768), 6);
+        Check.eq("round the end of bytes", six.sheet(0, 6, 126, 65), 18);
         Check.eq("without PLACES", new SunnyOnes().sheet(0, 3, 5, 0), 0);
         Check.eq("without PLACES", new SunnyOnes().sheet(3, 3, 5, 0), -3);
     }

@@ -38,6 +38,39 @@ public final class WhereTest {
         Check.eq("AGE", Check.one(old, 0, 0), 9991);
         Check.eq("9999 at most", old.comes(0, 9999), 1);
         Check.eq("not by 9", old.comes(2, 9998), 1);
+        old.days(1);
+        Check.eq("AGE 9999", old.comes(1, 9999), 0);
+        Check.row("AGE 9999", old);
+        SunnyOnes single = Check.skies(Check.world("9", "100"), "95");
+        Check.eq("nowhere else to be", single.comes(0, 15), -2);
+        Check.eq("nowhere else to be", single.comes(0, 24), 2);
+        Check.row("nowhere else to be", single, 0, 0);
+        Check.eq("nowhere else to be", single.ways(0, 5, 2), 0);
+        Check.eq("nowhere else to be", single.hides(0, 2), 0);
+        Check.row("nowhere else to be", single, 24, 24);
+        Check.eq("nowhere else to be", single.brightest(0), 1);
+        Check.row("nowhere else to be", single, 9);
+        SunnyOnes young = Check.world("0;1", "000");
+        Check.eq("AGE 0", young.comes(0, 0), 0);
+        Check.row("AGE 0", young);
+        Check.eq("AGE 4", young.comes(0, 4), 4);
+        Check.row("AGE 4", young, 1, 1, 1, 1);
+        Check.eq("AGE 3", young.comes(0, 3), 3);
+        Check.row("AGE 3", young, 1, 1, 1);
+        Check.eq("AGE 5", young.comes(0, 5), -2);
+        Check.row("the ROW stays", young, 1, 1, 1);
+        Check.eq("AGE 9999 of 0", young.comes(0, 9999), -2);
+        Check.rule(young, "(p=1)*(a+1)");
+        Check.eq("by AGE", young.comes(0, 7), 3);
+        Check.row("by AGE", young, 1, 1, 1);
+        Check.rule(young, "(p=1)*n");
+        Check.eq("by DAY", young.comes(0, 3), 3);
+        Check.row("the least row", young, 0, 1, 1);
+        young.days(1);
+        Check.eq("by DAY, a DAY later", young.comes(0, 3), 2);
+        Check.row("by DAY, a DAY later", young, 1, 1);
+        Check.eq("by DAY: 1 + 3", young.comes(0, 4), 3);
+        Check.row("by DAY: 1 + 3", young, 1, 0, 1);
     }
 
     private static void ways() {
@@ -69,6 +102,26 @@ public final class WhereTest {
             old.days(60);
         }
         Check.eq("HOURS are whole", old.ways(0, 36, 4), 81);
+        SunnyOnes by = Check.rule(Check.world("0;1", "000;120"), "(p=1)*(a+1)");
+        Check.eq("by AGE: 1 + 2", by.ways(0, 3, 3), 3);
+        Check.row("by AGE: 1 + 2", by, 0, 1, 1);
+        Check.eq("by AGE: 1 + 2 + 4", by.ways(0, 7, 4), 4);
+        Check.row("by AGE: 1 + 2 + 4", by, 0, 1, 1, 1);
+        Check.eq("by AGE: 3", by.ways(1, 3, 2), 2);
+        Check.rule(by, "(p=1)*n");
+        Check.eq("by DAY: 3 or 1 + 2", by.ways(0, 3, 4), 4);
+        Check.row("by DAY: 3 or 1 + 2", by, 0, 0, 0, 1);
+        by.days(2);
+        Check.eq("by DAY, two DAYS later", by.ways(0, 3, 4), 1);
+        Check.row("by DAY, two DAYS later", by, 0, 1, 0, 0);
+        by.moves(1, 1);
+        Check.rule(by, "k");
+        Check.eq("others where they are", by.ways(0, 4, 4), 1);
+        Check.row("others where they are", by, 1, 1, 1, 1);
+        Check.rule(by, "");
+        Check.skies(by, "909");
+        Check.eq("by SKY: DAYS 2, 4, 5", by.ways(0, 3, 4), 2);
+        Check.row("by SKY: DAYS 2, 4, 5", by, 1, 1, 0, 1);
     }
 
     private static void hides() {
@@ -89,6 +142,18 @@ public final class WhereTest {
         SunnyOnes k = Check.rule(Check.world("1;1", "000;000;001"), "k");
         Check.eq("others where they are", k.hides(2, 2), 1);
         Check.row("others where they are", k, 0, 4);
+        SunnyOnes by = Check.rule(Check.world("1;1", "000"), "(p=1)*n+(p=0)*a+1");
+        Check.eq("by AGE and DAY", by.hides(0, 3), 1);
+        Check.row("by AGE and DAY", by, 6, 7);
+        SunnyOnes old = Check.rule(Check.world("1;1", "990"), "9-p");
+        for (int i = 0; i < 20; i++) {
+            old.days(60);
+        }
+        Check.eq("AGE 9999", old.hides(0, 60), 0);
+        Check.row("AGE 9999", old, 9999, 9999);
+        SunnyOnes young = Check.world("0", "000");
+        Check.eq("one PLACE", young.hides(0, 60), 0);
+        Check.row("one PLACE", young, 0, 0);
     }
 
     private static void meets() {
@@ -111,6 +176,27 @@ public final class WhereTest {
         SunnyOnes k = Check.rule(Check.world("1;1", "030;001"), "(i=1)*k*3");
         Check.eq("the other one is not alone then", k.meets(0, 1, 1), 1);
         Check.row("the other one is not alone then", k, 0);
+        SunnyOnes bright = Check.rule(Check.world("9;5", "500;000"), "s*(i=0)");
+        Check.eq("of the PLACES that are there", bright.meets(0, 1, 1), 1);
+        Check.row("of the PLACES that are there", bright, 55);
+        SunnyOnes sky = Check.skies(Check.world("9;0", "000;301"), "015");
+        Check.eq("by SKY of each DAY", sky.meets(0, 1, 2), 0);
+        Check.row("by SKY of each DAY", sky, 29);
+        Check.eq("by SKY of each DAY", sky.meets(0, 1, 3), 0);
+        Check.row("by SKY of each DAY", sky, 24);
+        Check.eq("by SKY of each DAY", sky.meets(0, 1, 15), 0);
+        Check.row("by SKY of each DAY", sky, 0);
+        Check.eq("by SKY of each DAY", sky.meets(0, 1, 60), 1);
+        Check.row("by SKY of each DAY", sky, 30);
+        Check.rule(sky, "(n=3)*9+(i=1)*(a<3)");
+        Check.eq("by DAY and AGE", sky.meets(1, 0, 4), 0);
+        Check.row("by DAY and AGE", sky, 33);
+        SunnyOnes old = Check.rule(Check.world("1;9", "990;000"), "9-p*(i=0)");
+        for (int i = 0; i < 20; i++) {
+            old.days(60);
+        }
+        Check.eq("AGE 9999", old.meets(0, 1, 60), 0);
+        Check.row("AGE 9999", old, 0);
     }
 
     private static void rooms() {
@@ -152,6 +238,13 @@ public final class WhereTest {
         Check.eq("today", night.rooms(), 9);
         Check.eq("today", night.cellars(), 5);
         Check.row("today", night, 1);
+        night.days(1);
+        Check.eq("less than before", night.rooms(), 0);
+        Check.row("less than before", night, 0);
+        Check.eq("less than before", night.cellars(), 0);
+        night.days(1);
+        Check.eq("more than before", night.cellars(), 5);
+        Check.row("more than before", night, 1);
     }
 
     private static void brightest() {
@@ -169,6 +262,11 @@ public final class WhereTest {
         Check.rule(x, "0");
         Check.eq("all", x.brightest(1), 15);
         Check.row("all", x, 0);
+        SunnyOnes six = Check.rule(Check.world("1;2;3;4;5;6", "100"), "7");
+        Check.eq("six PLACES", six.brightest(0), 63);
+        Check.rule(six, "s");
+        Check.eq("the sixth", six.brightest(0), 32);
+        Check.row("the sixth", six, 6);
         Check.eq("brightest(3)", x.brightest(3), -1);
         Check.eq("brightest(-1)", x.brightest(-1), -1);
         Check.row("the ROW stays", x, 0);

@@ -40,6 +40,24 @@ public final class WhoTest {
         Check.eq("always so", x.guess(), 1 << 6);
         x.saw(1, 1);
         Check.eq("never so", x.guess(), 0);
+        Check.row("never so", x, 0, 0);
+        x.denies();
+        Check.eq("denied", x.guess(), 1023);
+        x.saw(0, 9);
+        Check.skies(x, "91");
+        Check.eq("SKY 9", x.guess(), 1 << 9);
+        Check.row("SKY 9", x, 1, 1);
+        x.days(1);
+        Check.eq("another DAY", x.guess(), 1 << 9);
+        Check.row("another DAY", x, 1, 0);
+        x.denies();
+        x.saw(0, 0);
+        Check.eq("SKY 0", x.guess(), 1);
+        Check.rule(x, "a");
+        Check.eq("another RULE", x.guess(), 0);
+        x.denies();
+        x.saw(0, (int) Check.one(x, 0, 3));
+        Check.eq("not by SKY", x.guess(), 1023);
         Check.eq("nobody", new SunnyOnes().guess(), 1023);
     }
 
@@ -55,6 +73,28 @@ public final class WhoTest {
         x.saw(0, 1);
         Check.eq("of those that are left", x.looks(), 0);
         Check.row("of those that are left", x, 2);
+        SunnyOnes most = Check.rule(Check.world("5", "000;000"), "w*(w<5)*i");
+        Check.eq("SKIES 0, 5 .. 9 by one", most.looks(), 1);
+        Check.row("SKIES 0, 5 .. 9 by one", most, 6);
+        Check.rule(most, "(w>6)*9+i*(w=6)");
+        Check.eq("SKIES 0 .. 5 by the other", most.looks(), 1);
+        Check.row("SKIES 0 .. 5 by the other", most, 6);
+        Check.rule(most, "(w>2)*9*i+(w<5)*9*(i=0)");
+        Check.eq("SKIES 5 .. 9 or 0 .. 4", most.looks(), 0);
+        Check.row("SKIES 5 .. 9 or 0 .. 4", most, 5);
+        Check.rule(most, "9*(i=1)+(w>8)*9*(i=0)");
+        Check.eq("SKY 9 alone", most.looks(), 0);
+        Check.row("SKY 9 alone", most, 9);
+        most.saw(0, 9);
+        Check.eq("one is left", most.looks(), 0);
+        Check.row("one is left", most, 1);
+        most.denies();
+        Check.rule(most, "0");
+        Check.eq("all are left", most.looks(), 0);
+        Check.row("all are left", most, 10);
+        Check.rule(most, "w");
+        Check.eq("each by itself", most.looks(), 0);
+        Check.row("each by itself", most, 1);
         x.saw(0, 2);
         Check.eq("none is left", x.looks(), -2);
         Check.row("the ROW stays", x, 2);
@@ -121,7 +161,19 @@ public final class WhoTest {
         x.heard(4, 0);
         Check.eq("all three", x.fits(), 0);
         Check.row("all three", x, 0);
+        x.forget();
+        Check.eq("forgotten", x.fits(), 7);
+        Check.row("forgotten", x, 3);
+        x.heard(0, 9999);
+        Check.eq("none so old", x.fits(), 0);
+        x.forget();
+        x.heard(2, 0);
+        Check.eq("forgotten", x.fits(), 7);
         Check.eq("nobody", new SunnyOnes().fits(), 0);
+        SunnyOnes none = new SunnyOnes();
+        none.heard(1, 5);
+        Check.eq("nobody, of whom it was heard", none.fits(), 0);
+        Check.row("nobody, of whom it was heard", none, 0);
     }
 
     private static void asks() {
